@@ -542,10 +542,6 @@ public final class WhoseGlass {
         return number;
     }
 
-    private static boolean isUnderRed(int kind) {
-        return kind == RED || kind == CHIPPED || kind == POURED;
-    }
-
     private House ahead(int n) {
         mind.become(now);
         mind.passMinutes(n);
@@ -656,8 +652,10 @@ public final class WhoseGlass {
             // By numbers, for a house in mind holds other objects for the same glasses.
             boolean same = number == other.number;
             int plain = figure == other.figure ? 3 : 1;
-            int tall = other.kind == TALL || other.kind == WATER ? plain + 3 : plain;
-            int red = isUnderRed(other.kind) ? plain + 4 : plain;
+            boolean toTall = other.kind == TALL || other.kind == WATER;
+            boolean toRed = other.kind == RED || other.kind == CHIPPED || other.kind == POURED;
+            int tall = toTall ? plain + 3 : plain;
+            int red = toRed ? plain + 4 : plain;
             int marked = same ? 20 : 0;
             switch (kind) {
                 case MARKED:
@@ -1105,7 +1103,10 @@ public final class WhoseGlass {
         static int build(Shelf text, House house) {
             int at = 0;
             for (int turn = 0; turn < text.size && at < text.size; turn++) {
-                if (!isDone(text, at, house)) {
+                // Done right here, for calls may go eight deep alone and a minute takes most of that.
+                if (isAt(text, at, 'm') && house.minute < LAST_MINUTE) {
+                    house.passMinutes(1);
+                } else if (!obeys(house, text, at)) {
                     return at;
                 }
                 at = digitsEnd(text, at) + 1;
@@ -1171,7 +1172,7 @@ public final class WhoseGlass {
             return text.elementAt(at) - '0';
         }
 
-        private static boolean isDone(Shelf text, int at, House house) {
+        private static boolean obeys(House house, Shelf text, int at) {
             switch (text.elementAt(at)) {
                 case 'g':
                     return glassStands(text, at, house);
@@ -1185,11 +1186,7 @@ public final class WhoseGlass {
                     setTray(text, at, house);
                     return true;
                 default:
-                    if (house.minute >= LAST_MINUTE) {
-                        return false;
-                    }
-                    house.passMinutes(1);
-                    return true;
+                    return false;
             }
         }
 
