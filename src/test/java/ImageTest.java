@@ -83,6 +83,16 @@ public final class ImageTest {
         check.due("behind a restore, too", x.comes(0, 4), 1);
         check.due("as it came", x.glass(1, 0) * 100 + x.glass(1, 1) * 10 + x.glass(1, 2), 239);
         check.due("sipped by none", x.glass(1, 4) + x.glass(1, 5), 0);
+
+        WhoseGlass y = new WhoseGlass();
+        y.image();
+        Houses.read(y, "g0190;p11000;c0;h000;m;");
+        y.restore();
+        Houses.read(y, "g0190;p11000;");
+        check.due("a new glass has neither sips nor germs", y.glass(0, 4) + y.glass(0, 5), 0);
+        check.due("a new guest has had nothing", y.guest(0, 7), 0);
+        check.due("nor has it a cold", y.guest(0, 8), 0);
+        check.due("nor a glass", y.guest(0, 5) + y.guest(0, 6), -8);
     }
 
     private static void counts() {

@@ -155,6 +155,9 @@ public final class MindTest {
         check.due("fresh(4)", x.fresh(4), 1);
         check.due("close(3)", x.close(3), -4);
         check.due("close(4)", x.close(4), 1);
+        WhoseGlass three = Houses.of("g0190;g0190;g0192;g0192;g0192;g0194;p92300;p92300;p92302;h000;h101;h202;");
+        check.due("three fresh ones", three.fresh(4), 3);
+        check.due("fewest, not the last that brings fewer", three.close(4), 1);
         WhoseGlass round = Houses.of("g0195;g0191;p92305;h000;");
         check.due("place 0 left out", round.close(4), 0);
         WhoseGlass last = Houses.of("g0194;g0190;p92304;h000;");
@@ -208,6 +211,16 @@ public final class MindTest {
         x.lay(0);
         check.due("a mistake by seed 1", x.seeded(1, 1, 0), 1);
         check.due("none by seed -1", x.seeded(1, -1, 0), 0);
+        // Seed 1 goes on with places 4 and 3.
+        WhoseGlass two = Houses.of("g0192;g0194;p19002;p19004;h000;h101;");
+        two.lay(0);
+        two.lay(1);
+        check.due("a draw for each guest", two.seeded(1, 1, 1), 0);
+        WhoseGlass on = Houses.of("g0192;g0193;p91002;h000;");
+        on.lay(0);
+        check.due("fresh ones of three draws", on.seeded(3, 1, 1), 0);
+        check.due("mistakes of two draws", on.seeded(2, 1, 0), 0);
+        check.due("mistakes of three draws", on.seeded(3, 1, 0), 1);
         check.due("seeded(0, 1, 0)", x.seeded(0, 1, 0), -1);
         check.due("seeded(31, 1, 0)", x.seeded(31, 1, 0), -1);
         check.due("seeded(30, 1, -1)", x.seeded(30, 1, -1), -1);

@@ -58,6 +58,9 @@ public final class ShelvesTest {
         check.due("element 99 stays", x.element(0, 99), 5);
         check.due("row(0, 2, 100) anew", x.row(0, 2, 100), 0);
         check.due("element 99 is 0 at first", x.element(0, 99), 0);
+        x.put(0, 0, 7);
+        x.row(0, 1, 1);
+        check.due("element 0 is 0 at first", x.element(0, 0), 0);
         check.due("row(0, 1, 0)", x.row(0, 1, 0), 0);
         check.due("put into none", x.put(0, 0, 1), -13);
     }
@@ -142,6 +145,9 @@ public final class ShelvesTest {
         check.due("copy to a glass", x.copy(0, 0, 5, 0, 1), -12);
         check.due("copy from a glass to nothing", x.copy(5, 0, 6, 0, 1), -11);
         check.due("copy from a glass to a glass", x.copy(5, 0, 5, 0, 0), -12);
+        x.row(3, 0, 3);
+        check.due("copy from a glass to bytes", x.copy(5, 0, 3, 0, 1), -12);
+        check.due("copy from bytes to a glass", x.copy(3, 0, 5, 0, 1), -12);
         x.row(4, 2, 3);
         check.due("copy to another sort", x.copy(0, 0, 4, 0, 1), -12);
         check.due("copy to another sort, no place", x.copy(0, 9, 4, 0, 1), -12);

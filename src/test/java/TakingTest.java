@@ -104,6 +104,9 @@ public final class TakingTest {
         WhoseGlass four = Houses.of("g0290;g0290;g0290;p11000;h000;");
         check.due("3 of 6 above", four.likely(0, 1, 0), 1);
         check.due("3 of 6 below", four.likely(0, 1, 1), 2);
+        WhoseGlass half = Houses.of("g2290;g2290;g4390;p11000;h000;");
+        check.due("6 of 10 above", half.likely(0, 1, 0), 3);
+        check.due("6 of 10 below", half.likely(0, 1, 1), 5);
         WhoseGlass marked = Houses.of("g1290;g0290;p11000;h000;");
         check.due("all are 0, above", marked.likely(0, 1, 0), 0);
         check.due("all are 0, below", marked.likely(0, 1, 1), 1);
