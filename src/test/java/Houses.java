@@ -33,4 +33,40 @@ final class Houses {
             x.put(d, i, numbers[i]);
         }
     }
+
+    /** All that is told of a house; some calls for each of its glasses and guests. */
+    static String told(WhoseGlass x) {
+        StringBuilder told = new StringBuilder();
+        for (int what = 0; what < 7; what++) {
+            told.append(x.count(what)).append(' ');
+        }
+        for (int i = 0; i < x.count(0); i++) {
+            told.append("glass ");
+            for (int what = 0; what < 7; what++) {
+                told.append(x.glass(i, what)).append(' ');
+            }
+        }
+        for (int i = 0; i < x.count(1); i++) {
+            told.append("guest ");
+            for (int what = 0; what < 9; what++) {
+                told.append(x.guest(i, what)).append(' ');
+            }
+        }
+        return told.toString();
+    }
+
+    /** What is held by a shelf: its glass by cost and failure, or its row by elements. */
+    static String toldOfShelf(WhoseGlass x, int d) {
+        StringBuilder told = new StringBuilder();
+        told.append(x.cost(d)).append(' ').append(x.toss(d));
+        try {
+            for (int i = 0; i <= 100; i++) {
+                long element = x.element(d, i);
+                told.append(' ').append(element);
+            }
+        } catch (IllegalStateException behindTheEnd) {
+            return told.toString();
+        }
+        return told.toString();
+    }
 }

@@ -120,10 +120,11 @@ public final class HousesTest {
             7, 6, 13, 13, 13,
             13, 24, 25,
             72, 42, 7, 4};
-        WhoseGlass x = new WhoseGlass();
+        // Not all on one object: what it answers behind 512 calls is free.
         for (int i = 0; i < texts.length; i++) {
-            check.due("house of " + texts[i], Houses.read(x, texts[i]), -2000 - places[i]);
+            check.due("house of " + texts[i], Houses.read(new WhoseGlass(), texts[i]), -2000 - places[i]);
         }
+        WhoseGlass x = new WhoseGlass();
         check.due("kind 1 goes ahead", Houses.read(x, "g9000;m"), -1007);
         check.due("twelve glasses", Houses.read(x, glass.repeat(12)), 12);
         check.due("six guests", Houses.read(x, guest.repeat(6)), 6);
