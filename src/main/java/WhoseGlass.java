@@ -13,6 +13,9 @@ public final class WhoseGlass {
     private static final int MOST_CARE = 9;
     private static final int MOST_FIGURE = 9;
     private static final int MOST_DRAWN_MINUTES = 30;
+    // Written out: of Integer's own constants ../shared/LANGUAGE.md lists none.
+    private static final int ALL_BUT_SIGN = 0x7fffffff;
+    private static final int LEAST_INT = 0x80000000;
 
     private static final int GLASS = 0;
     private static final int MARKED = 1;
@@ -1044,7 +1047,7 @@ public final class WhoseGlass {
                 Guest guest = guestAt(i);
                 z = z * 1103515245 + 12345;
                 if (guest != null) {
-                    guest.place = (z & Integer.MAX_VALUE) / 65536 % PLACES;
+                    guest.place = (z & ALL_BUT_SIGN) / 65536 % PLACES;
                 }
             }
             return z;
@@ -1291,7 +1294,7 @@ public final class WhoseGlass {
                 case SHORTS:
                     return -32768;
                 default:
-                    return Integer.MIN_VALUE;
+                    return LEAST_INT;
             }
         }
 

@@ -406,6 +406,11 @@ final class CallsSentences {
         doc.due("what was an own one is", x.idle(0), 1);
         x.clear(0, 0);
         doc.due("none in the sink", x.idle(0), 0);
+        WhoseGlass first = Houses.of("g0290;p11000;");
+        doc.due("the first glass is", first.idle(0), 1);
+        Houses.read(first, "h000;");
+        first.lay(0);
+        doc.due("the first glass is its own", first.idle(0), 0);
         doc.promises(16, "IDLE.");
         doc.due("idle(5)", x.idle(5), 1);
         doc.due("idle(4)", x.idle(4), 0);

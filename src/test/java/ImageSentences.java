@@ -51,6 +51,22 @@ final class ImageSentences {
         doc.due("the next glass has the number that it had then", Houses.read(x, "g0190;p11000;"), 2);
         doc.due("it is as new", x.glass(2, 4) + x.glass(2, 5) + x.guest(1, 7) + x.guest(1, 8), 0);
         doc.due("the guest, too", x.guest(1, 5) + x.guest(1, 6), -8);
+        // What a guest and a glass had on them that came behind the image is not left to the next ones.
+        WhoseGlass later = Houses.of("p99000;");
+        later.image();
+        Houses.read(later, "g3990;p11000;h100;c1;");
+        doc.due("a later guest sips", later.sip(1), 11);
+        doc.due("and again in mind", later.had(1, 1), 22);
+        later.restore();
+        Houses.read(later, "g0190;p22000;");
+        int[] glass = {0, 1, 9, 0, 0, 0, 0};
+        for (int what = 0; what < glass.length; what++) {
+            doc.due("the new glass(0, " + what + ")", later.glass(0, what), glass[what]);
+        }
+        int[] guest = {2, 2, 0, 0, 0, -4, -4, 0, 0};
+        for (int what = 0; what < guest.length; what++) {
+            doc.due("the new guest(1, " + what + ")", later.guest(1, what), guest[what]);
+        }
         WhoseGlass empty = new WhoseGlass();
         empty.image();
         Houses.read(empty, "g3190;p11000;c0;h000;t5;m;m;");
@@ -100,6 +116,12 @@ final class ImageSentences {
         for (int what = 0; what < then.length; what++) {
             doc.due("count(" + what + ") then", x.count(what), then[what]);
         }
+        WhoseGlass first = Houses.of("g0190;g0191;");
+        doc.due("none in the sink", first.count(6), 0);
+        first.clear(0, 0);
+        doc.due("the first glass in the sink", first.count(6), 1);
+        first.clear(1, 0);
+        doc.due("all in the sink", first.count(6), 2);
         doc.promises(33, "-1 for others.");
         int[] others = {Integer.MIN_VALUE, -1, 7, Integer.MAX_VALUE};
         for (int what : others) {

@@ -24,7 +24,7 @@ public final class LanguageTest {
         "Exact(", "volatile", "transient", "record ", "Object ", "getMessage", "printStackTrace", "System.out",
         "protected", "ArrayIndexOutOfBounds", "NullPointer", "Arithmetic", "ClassCast", "NegativeArraySize",
         "ArrayStore", "catch (RuntimeException", "catch (IndexOutOfBounds", "catch (Exception", "catch (Throwable",
-        "@", "while (true", "for (;;", " + \"", "\" + "};
+        "@", "Integer.M", "while (true", "for (;;", " + \"", "\" + "};
 
     private static final Check check = new Check("LanguageTest");
 

@@ -300,6 +300,13 @@ final class MindSentences {
         doc.due("place 0 left out, from 5 on to 1", zero.close(4), 0);
         WhoseGlass five = Houses.of("g0194;g0190;p92304;h000;");
         doc.due("place 5 left out, from 4 on to 0", five.close(4), 5);
+        // The last place that is left out in mind is 5: it is left out there alone.
+        doc.due("a fresh one at 5 then", five.fresh(4), 1);
+        doc.due("it goes to 5 then", five.where(1, 4), 0);
+        doc.due("so it does in a text", Houses.read(five, "m;m;m;m;"), 4);
+        doc.due("where it has gone", five.guest(0, 4), 5);
+        five.minutes(3);
+        doc.due("and on to 0", five.guest(0, 4), 0);
     }
 
     private void closeStays() {

@@ -82,7 +82,9 @@ final class TextSentences {
         char[] signs = {'/', ':', ' ', '-', 'm', ';'};
         for (int at = 1; at <= digits; at++) {
             for (char sign : signs) {
-                reads(statement.substring(0, at) + sign + statement.substring(at + 1), -1000 - at);
+                String bad = statement.substring(0, at) + sign + statement.substring(at + 1);
+                reads(bad, -1000 - at);
+                reads("m;" + bad, -1002 - at);
             }
         }
     }
