@@ -1,4 +1,4 @@
-/** The image, what is counted, refusals of several kinds, and calls of one object; promises 31 to 33. */
+/** The image, what is counted, refusals of several kinds; promises 31 to 33. */
 final class ImageSentences {
 
     private final Sentences doc;
@@ -8,7 +8,6 @@ final class ImageSentences {
     }
 
     void tell() {
-        manyCalls();
         image();
         promisedImage();
         promisedRestore();
@@ -18,16 +17,6 @@ final class ImageSentences {
         firstOfSeveral();
         refusedInOrder();
         changesNothing();
-    }
-
-    private void manyCalls() {
-        doc.says("What it is", "An object is used for at most 512 calls after it has been made;");
-        WhoseGlass x = Houses.of("p11000;");
-        int place = 0;
-        for (int calls = 9; calls < 512; calls++) {
-            doc.due("call " + (calls + 1), x.go(0, calls % 6), place);
-            place = calls % 6;
-        }
     }
 
     private void image() {
@@ -273,5 +262,22 @@ final class ImageSentences {
             then.append(Houses.toldOfShelf(x, d)).append("; ");
         }
         doc.same("the shelves", then.toString(), shelves.toString());
+        refusedRowsAndGlasses(x);
+    }
+
+    /** A shelf's sort, kind and figure are told by what it does later on alone. */
+    private void refusedRowsAndGlasses(WhoseGlass x) {
+        doc.due("ints of no such size", x.row(1, 2, -1), -14);
+        doc.due("ints of no such size, too", x.row(1, 2, 101), -1);
+        x.put(1, 0, 99999);
+        doc.due("bytes still", x.element(1, 0), -97);
+        doc.due("bytes of no such size", x.row(2, 0, -1), -14);
+        x.put(2, 0, 300);
+        doc.due("shorts still", x.element(2, 0), 300);
+        x.keep(5, 1, 5, 3);
+        doc.due("no such kind", x.keep(5, 1, 8, 4), -1);
+        doc.due("no such figure", x.keep(5, 1, 1, 10), -1);
+        doc.due("no such what", x.keep(5, 2, 1, 4), -1);
+        doc.due("an owl of figure 3 still", x.toss(5), 214);
     }
 }

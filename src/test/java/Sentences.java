@@ -73,7 +73,8 @@ final class Sentences {
     void end() {
         endOne();
         parts.forEach((name, text) -> {
-            if (name.equals("Terms") || name.startsWith("Promise")) {
+            // What is not promised can't be looked at; all else can.
+            if (!name.equals("Not promised")) {
                 check.holds("every sentence under " + name + " has a test: " + untold(name),
                         untold(name).isEmpty());
             }

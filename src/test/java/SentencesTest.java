@@ -1,10 +1,11 @@
 import java.io.IOException;
 
-/** A test for each sentence of the document under Terms and the promises; run from the project's folder. */
+/** A test for each sentence of the document, from its first line to its last promise; run from the project's folder. */
 public final class SentencesTest {
 
     public static void main(String[] args) throws IOException {
         Sentences doc = new Sentences();
+        new FirstSentences(doc).tell();
         new ThingsSentences(doc).tell();
         new TakingSentences(doc).tell();
         new TextSentences(doc).tell();
